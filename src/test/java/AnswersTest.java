@@ -7,6 +7,7 @@ public final class AnswersTest {
         needsOfLeaves();
         needsOfFunctions();
         needsThroughOthers();
+        branchesOfEachTwig();
         oneAndTheSame();
         answersCounted();
         answersInOrder();
@@ -109,6 +110,27 @@ public final class AnswersTest {
         x.drop();
         x.apply(2, 2, 1);
         looks(x, 5, 3, -9, 0b100101);
+    }
+
+    private static void branchesOfEachTwig() {
+        // By (first, other): 1 2 0, f 1 0, 2 f 1; and a term that always fails.
+        NeededAnswers x = Check.with("n;p10b120bf10b2f1;p10fff");
+        x.unknown(0);
+        x.unknown(1);
+        x.apply(0, 0, 1);
+        x.apply(1, 0, 0);
+        x.apply(0, 0, 3);
+        int[][] due = {{1, 2, 0}, {-9, 1, 0}, {2, -9, 1}};
+        for (int first = 0; first <= 2; first++) {
+            x.given(0, first);
+            looks(x, 2, 1, 1, 0b00111);
+            looks(x, 4, 3, -9, 0b11001);
+            for (int other = 0; other <= 2; other++) {
+                x.given(1, other);
+                looks(x, 2, due[first][other] == -9 ? 3 : 0, due[first][other], 0b00111);
+            }
+            x.given(1, 3);
+        }
     }
 
     private static void oneAndTheSame() {

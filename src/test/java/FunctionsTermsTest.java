@@ -145,16 +145,24 @@ public final class FunctionsTermsTest {
         x.given(2, 1);
         x.reading(0, 0);
         x.tell(0);
+        x.kinds(0);
         check.is("faulty text", Check.take(x, "n;p10o"), -106);
         check.is("functions stay", x.many(0), 3);
         check.is("terms stay", x.many(1), 2);
         check.is("given stays", x.many(2), 1);
         check.is("readings stay", x.many(3), 1);
         check.is("function 0 stays", x.ofFunction(0, 1), 3);
+        for (int v = 0; v <= 2; v++) {
+            x.given(v, v);
+        }
+        x.branches(0);
         check.is("another text", Check.take(x, "n;d21210"), 1);
         check.is("functions anew", x.many(0), 1);
         check.is("no terms", x.many(1), 0);
         check.is("no given", x.many(2), 0);
+        for (int v = 0; v <= 2; v++) {
+            check.is("not given", x.given(v, 3), 3);
+        }
         check.is("no readings", x.many(3), 0);
         check.is("trace stays", x.trace(), 1);
         check.is("sheet stays", x.cell(3, 0, 0), 110);

@@ -38,6 +38,7 @@ public final class SheetsPartsTest {
         answersFault(x, "nothing is laid", x.put(0, 0, 0), -11, 1);
         answersFault(x, "n 60", x.sheet(0, 2, 60), 1, 0);
         check.is("the last cell", x.put(0, 59, 77), 1);
+        check.is("the first cell", x.put(0, 0, 78), 1);
         answersFault(x, "n least", x.sheet(0, 0, Integer.MIN_VALUE), -14, 4);
         check.is("the row stays", x.cell(0, 59, 2), 77);
         check.is("a new row", x.sheet(0, 2, 60), 1);
