@@ -1116,8 +1116,10 @@ public final class NeededAnswers {
             return WRONG;
         }
 
+        /** Looks at the cell itself: Sheet.has would be a ninth call, deeper than calls may go. */
         private boolean passes(int code) {
-            if (page == null || at >= length || !page.has(start + at) || page.cells[start + at] != code) {
+            int place = start + at;
+            if (page == null || at >= length || place < 0 || place >= page.size || page.cells[place] != code) {
                 return false;
             }
             at++;

@@ -41,22 +41,16 @@ public final class AnswersTest {
         check.is("2 no more", x.given(2, 3), 0);
     }
 
-    private static void looks(NeededAnswers x, int t, int need, int which, int looked) {
-        check.is("needs " + t + " 0", x.needs(t, 0), need);
-        check.is("needs " + t + " 1", x.needs(t, 1), which);
-        check.is("needs " + t + " 2", x.needs(t, 2), looked);
-    }
-
     private static void needsOfLeaves() {
         NeededAnswers x = Check.with("n;p10000");
         x.constant(2);
         x.unknown(1);
-        looks(x, 0, 0, 2, 1);
-        looks(x, 1, 1, 1, 2);
+        check.needs(x, 0, 0, 2, 1);
+        check.needs(x, 1, 1, 1, 2);
         x.given(1, 0);
-        looks(x, 1, 0, 0, 2);
+        check.needs(x, 1, 0, 0, 2);
         x.given(1, 3);
-        looks(x, 1, 1, 1, 2);
+        check.needs(x, 1, 1, 1, 2);
         check.is("term -1", x.needs(-1, 9), -1);
         check.is("term 2", x.needs(2, 0), -1);
         check.is("what -1", x.needs(0, -1), -2);
@@ -70,27 +64,27 @@ public final class AnswersTest {
         x.unknown(1);
         x.apply(0, 0, 1);
         x.apply(1, 0, 1);
-        looks(x, 2, 1, 1, 0b0110);
+        check.needs(x, 2, 1, 1, 0b0110);
         x.given(1, 0);
-        looks(x, 2, 1, 0, 0b0111);
+        check.needs(x, 2, 1, 0, 0b0111);
         x.given(0, 2);
-        looks(x, 2, 0, 2, 0b0111);
+        check.needs(x, 2, 0, 2, 0b0111);
         x.given(1, 1);
-        looks(x, 2, 3, -9, 0b0110);
+        check.needs(x, 2, 3, -9, 0b0110);
         x.given(1, 2);
-        looks(x, 2, 0, 2, 0b0110);
+        check.needs(x, 2, 0, 2, 0b0110);
         x.given(1, 3);
-        looks(x, 3, 1, 1, 0b1011);
+        check.needs(x, 3, 1, 1, 0b1011);
         x.given(0, 0);
-        looks(x, 3, 2, 3, 0b1001);
+        check.needs(x, 3, 2, 3, 0b1001);
         x.given(0, 1);
-        looks(x, 3, 1, 1, 0b1011);
+        check.needs(x, 3, 1, 1, 0b1011);
         x.given(1, 0);
-        looks(x, 3, 0, 1, 0b1011);
+        check.needs(x, 3, 0, 1, 0b1011);
         x.given(1, 1);
-        looks(x, 3, 3, -9, 0b1011);
+        check.needs(x, 3, 3, -9, 0b1011);
         x.given(1, 2);
-        looks(x, 3, 0, 0, 0b1011);
+        check.needs(x, 3, 0, 0, 0b1011);
     }
 
     private static void needsThroughOthers() {
@@ -102,14 +96,14 @@ public final class AnswersTest {
         x.apply(2, 0, 1);
         x.apply(2, 1, 2);
         x.apply(2, 0, 2);
-        looks(x, 1, 2, 1, 0b000011);
-        looks(x, 2, 3, -9, 0b000101);
-        looks(x, 3, 2, 1, 0b001011);
-        looks(x, 4, 2, 1, 0b010011);
-        looks(x, 5, 3, -9, 0b100101);
+        check.needs(x, 1, 2, 1, 0b000011);
+        check.needs(x, 2, 3, -9, 0b000101);
+        check.needs(x, 3, 2, 1, 0b001011);
+        check.needs(x, 4, 2, 1, 0b010011);
+        check.needs(x, 5, 3, -9, 0b100101);
         x.drop();
         x.apply(2, 2, 1);
-        looks(x, 5, 3, -9, 0b100101);
+        check.needs(x, 5, 3, -9, 0b100101);
     }
 
     private static void branchesOfEachTwig() {
@@ -123,11 +117,11 @@ public final class AnswersTest {
         int[][] due = {{1, 2, 0}, {-9, 1, 0}, {2, -9, 1}};
         for (int first = 0; first <= 2; first++) {
             x.given(0, first);
-            looks(x, 2, 1, 1, 0b00111);
-            looks(x, 4, 3, -9, 0b11001);
+            check.needs(x, 2, 1, 1, 0b00111);
+            check.needs(x, 4, 3, -9, 0b11001);
             for (int other = 0; other <= 2; other++) {
                 x.given(1, other);
-                looks(x, 2, due[first][other] == -9 ? 3 : 0, due[first][other], 0b00111);
+                check.needs(x, 2, due[first][other] == -9 ? 3 : 0, due[first][other], 0b00111);
             }
             x.given(1, 3);
         }
@@ -290,38 +284,20 @@ public final class AnswersTest {
         }
     }
 
-    private static NeededAnswers beforeADay() {
-        NeededAnswers x = Check.with("n;p20c12fo;d30ooo");
-        x.unknown(0);
-        x.unknown(1);
-        x.apply(0, 0, 1);
-        x.apply(1, 2, 1);
-        return x;
-    }
-
-    private static void dayIs(NeededAnswers x, int[] cells, int... due) {
-        int[] what = {0, 1, 2, 3, 4, 10, 11, 12};
-        Check.lay(x, 1, 2, cells);
-        for (int k = 0; k < what.length; k++) {
-            check.is("day " + java.util.Arrays.toString(cells) + " " + what[k],
-                x.day(1, 2, 0, cells.length / 2, what[k]), due[k]);
-        }
-    }
-
     private static void dayPlays() {
-        NeededAnswers x = beforeADay();
-        dayIs(x, new int[] {}, 4, -9, 9, 7, 6, 3, 3, 3);
-        dayIs(x, new int[] {2, 0}, 4, -9, 3, 7, 6, 2, 3, 3);
-        dayIs(x, new int[] {1, 0}, 4, -9, 0, 0, -9, 1, 3, 3);
-        dayIs(x, new int[] {1, 0, 0, 0, 3, 0, 1, 1}, 4, -9, 3, 2, 6, 3, 1, 3);
-        dayIs(x, new int[] {9, 10}, 4, -9, 9, 7, 13, 3, 3, 3);
-        dayIs(x, new int[] {9, 11, 1, 11}, 4, -9, 9, 7, 4, 3, 3, 3);
-        dayIs(x, new int[] {0, 20}, 3, -9, 5, 7, 2, 3, 3, 3);
-        dayIs(x, new int[] {0, 20, 0, 2, 0, 20}, 2, -9, 3, 7, 0, 3, 3, 0);
-        dayIs(x, new int[] {0, 20, 0, 20, 0, 20, 0, 20, 2, 1}, 0, -9, -9, -9, -9, 3, 2, 3);
+        NeededAnswers x = Made.beforeADay();
+        check.day(x, new int[] {}, 4, -9, 9, 7, 6, 3, 3, 3);
+        check.day(x, new int[] {2, 0}, 4, -9, 3, 7, 6, 2, 3, 3);
+        check.day(x, new int[] {1, 0}, 4, -9, 0, 0, -9, 1, 3, 3);
+        check.day(x, new int[] {1, 0, 0, 0, 3, 0, 1, 1}, 4, -9, 3, 2, 6, 3, 1, 3);
+        check.day(x, new int[] {9, 10}, 4, -9, 9, 7, 13, 3, 3, 3);
+        check.day(x, new int[] {9, 11, 1, 11}, 4, -9, 9, 7, 4, 3, 3, 3);
+        check.day(x, new int[] {0, 20}, 3, -9, 5, 7, 2, 3, 3, 3);
+        check.day(x, new int[] {0, 20, 0, 2, 0, 20}, 2, -9, 3, 7, 0, 3, 3, 0);
+        check.day(x, new int[] {0, 20, 0, 20, 0, 20, 0, 20, 2, 1}, 0, -9, -9, -9, -9, 3, 2, 3);
         x.given(0, 2);
-        dayIs(x, new int[] {}, 4, -9, 3, 7, 6, 2, 3, 3);
-        dayIs(x, new int[] {3, 0}, 4, -9, 9, 7, 6, 3, 3, 3);
+        check.day(x, new int[] {}, 4, -9, 3, 7, 6, 2, 3, 3);
+        check.day(x, new int[] {3, 0}, 4, -9, 9, 7, 6, 3, 3, 3);
         // A day may stand anywhere in a sheet, of any lane, and be 20 acts long.
         int[] long20 = new int[42];
         for (int k = 1; k < 41; k += 2) {
@@ -336,7 +312,7 @@ public final class AnswersTest {
     }
 
     private static void dayChangesNothing() {
-        NeededAnswers x = beforeADay();
+        NeededAnswers x = Made.beforeADay();
         x.given(1, 1);
         x.reading(3, 6);
         Check.lay(x, 0, 0, 9, 10, 8, 11, 2, 0, 3, 1, 0, 20, 0, 20);
@@ -352,11 +328,11 @@ public final class AnswersTest {
     }
 
     private static void dayFirstWrong() {
-        NeededAnswers x = beforeADay();
-        dayIs(x, new int[] {5, 12}, -100, 0, -100, -100, -100, -100, -100, -100);
-        dayIs(x, new int[] {1, 0, 5, 12, 0, 20}, -101, 1, -101, -101, -101, -101, -101, -101);
+        NeededAnswers x = Made.beforeADay();
+        check.day(x, new int[] {5, 12}, -100, 0, -100, -100, -100, -100, -100, -100);
+        check.day(x, new int[] {1, 0, 5, 12, 0, 20}, -101, 1, -101, -101, -101, -101, -101, -101);
         int[] five = {0, 20, 0, 20, 0, 20, 0, 20, 0, 20, 0, 20};
-        dayIs(x, five, -104, 4, -104, -104, -104, -104, -104, -104);
+        check.day(x, five, -104, 4, -104, -104, -104, -104, -104, -104);
         Check.lay(x, 0, 0, 5, 12, 4, 0);
         check.is("refused for a later pair", x.day(0, 0, 0, 2, 1), -2);
         check.is("not for one that is not of it", x.day(0, 0, 0, 1, 1), 0);
@@ -370,7 +346,7 @@ public final class AnswersTest {
         Check.lay(none, 0, 0, 7, 7);
         check.is("no functions", none.day(0, 0, 0, 1, 0), -3);
         check.is("INDEX ahead of STATE", none.day(0, 0, 0, 2, 0), -13);
-        NeededAnswers x = beforeADay();
+        NeededAnswers x = Made.beforeADay();
         Check.lay(x, 0, 1, 0, 0, 0, 0);
         check.is("sheet -1", x.day(-1, 9, 0, 99, 99), -1);
         check.is("sheet 4", x.day(4, 1, 0, 1, 0), -1);

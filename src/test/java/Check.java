@@ -1,5 +1,6 @@
 /** Counts the answers that are not as due, and fills sheets for the tests. */
 final class Check {
+    static final int[] DAY_WHAT = {0, 1, 2, 3, 4, 10, 11, 12};
     private final String test;
     private int asked;
     private int wrong;
@@ -21,6 +22,38 @@ final class Check {
         if (wrong != 0 || asked == 0) {
             System.exit(1);
         }
+    }
+
+    /** What a term needs in the first stand, which, and the terms that are looked at. */
+    void needs(NeededAnswers x, int t, int need, int which, int looked) {
+        is("needs " + t + " 0", x.needs(t, 0), need);
+        is("needs " + t + " 1", x.needs(t, 1), which);
+        is("needs " + t + " 2", x.needs(t, 2), looked);
+    }
+
+    /** A day of these cells, by what 0 to 4 and 10 to 12. */
+    void day(NeededAnswers x, int[] cells, int... due) {
+        lay(x, 1, 2, cells);
+        for (int k = 0; k < DAY_WHAT.length; k++) {
+            is("day " + java.util.Arrays.toString(cells) + " " + DAY_WHAT[k],
+                x.day(1, 2, 0, cells.length / 2, DAY_WHAT[k]), due[k]);
+        }
+    }
+
+    /** Odds of a term and 0, 1, 2, a failure: the upper and the lower number of each. */
+    void odds(NeededAnswers x, int t, int... due) {
+        for (int v = 0; v <= 3; v++) {
+            is("odds of " + t + " and " + v + ", upper", x.odds(t, v, 0), due[2 * v]);
+            is("odds of " + t + " and " + v + ", lower", x.odds(t, v, 1), due[2 * v + 1]);
+        }
+    }
+
+    /** What a trace becomes when these bodies have left their numbers. */
+    static int after(int trace, int... bodies) {
+        for (int body : bodies) {
+            trace = 31 * trace + body;
+        }
+        return trace;
     }
 
     /** A sheet of just these cells. */

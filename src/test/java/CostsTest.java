@@ -177,21 +177,14 @@ public final class CostsTest {
         check.is("many readings", x.many(3), 1);
     }
 
-    private static void oddsAre(NeededAnswers x, int t, int... due) {
-        for (int v = 0; v <= 3; v++) {
-            check.is("odds of " + t + " and " + v + ", upper", x.odds(t, v, 0), due[2 * v]);
-            check.is("odds of " + t + " and " + v + ", lower", x.odds(t, v, 1), due[2 * v + 1]);
-        }
-    }
-
     private static void oddsOfLeaves() {
         NeededAnswers x = Check.with("n;p10012");
         x.constant(1);
         x.unknown(2);
-        oddsAre(x, 0, 0, 1, 1, 1, 0, 1, 0, 1);
-        oddsAre(x, 1, 1, 3, 1, 3, 1, 3, 0, 1);
+        check.odds(x, 0, 0, 1, 1, 1, 0, 1, 0, 1);
+        check.odds(x, 1, 1, 3, 1, 3, 1, 3, 0, 1);
         x.given(2, 0);
-        oddsAre(x, 1, 1, 1, 0, 1, 0, 1, 0, 1);
+        check.odds(x, 1, 1, 1, 0, 1, 0, 1, 0, 1);
     }
 
     private static void oddsOfFunctions() {
@@ -200,15 +193,15 @@ public final class CostsTest {
         x.unknown(0);
         x.unknown(1);
         x.apply(0, 0, 1);
-        oddsAre(x, 2, 1, 9, 5, 18, 5, 18, 1, 3);
+        check.odds(x, 2, 1, 9, 5, 18, 5, 18, 1, 3);
         x.given(0, 1);
-        oddsAre(x, 2, 0, 1, 0, 1, 0, 1, 1, 1);
+        check.odds(x, 2, 0, 1, 0, 1, 0, 1, 1, 1);
         x.given(0, 0);
-        oddsAre(x, 2, 0, 1, 1, 2, 1, 2, 0, 1);
+        check.odds(x, 2, 0, 1, 1, 2, 1, 2, 0, 1);
         x.given(0, 2);
-        oddsAre(x, 2, 1, 3, 1, 3, 1, 3, 0, 1);
+        check.odds(x, 2, 1, 3, 1, 3, 1, 3, 0, 1);
         x.given(1, 2);
-        oddsAre(x, 2, 0, 1, 0, 1, 1, 1, 0, 1);
+        check.odds(x, 2, 0, 1, 0, 1, 1, 1, 0, 1);
     }
 
     private static void oddsOfOneCoin() {
@@ -217,12 +210,12 @@ public final class CostsTest {
         x.constant(0);
         x.apply(0, 0, 0);
         x.apply(1, 1, 1);
-        oddsAre(x, 2, 0, 1, 1, 1, 0, 1, 0, 1);
+        check.odds(x, 2, 0, 1, 1, 1, 0, 1, 0, 1);
         x.apply(0, 0, 0);
         x.apply(1, 1, 3);
-        oddsAre(x, 4, 0, 1, 1, 2, 0, 1, 1, 2);
+        check.odds(x, 4, 0, 1, 1, 2, 0, 1, 1, 2);
         x.apply(0, 4, 4);
-        oddsAre(x, 5, 1, 4, 1, 4, 0, 1, 1, 2);
+        check.odds(x, 5, 1, 4, 1, 4, 0, 1, 1, 2);
         // Unknown 0: 0 is 0; 1 throws 0 or 1; 2 hands on the like by unknown 1, that by unknown 2.
         NeededAnswers y = Check.with("n;p10c00c01o");
         y.unknown(0);
@@ -230,7 +223,7 @@ public final class CostsTest {
         y.unknown(2);
         y.apply(0, 1, 2);
         y.apply(0, 0, 3);
-        oddsAre(y, 4, 19, 27, 7, 27, 1, 27, 0, 1);
+        check.odds(y, 4, 19, 27, 7, 27, 1, 27, 0, 1);
     }
 
     private static void oddsRefused() {

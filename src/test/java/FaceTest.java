@@ -62,6 +62,34 @@ public final class FaceTest {
         for (Class<?> one : inside) {
             check.is(one + " is static", Modifier.isStatic(one.getModifiers()) ? 1 : 0, 1);
             check.is(one + " is not public", Modifier.isPublic(one.getModifiers()) ? 1 : 0, 0);
+            keepsToSizes(one);
+        }
+        keepsToSizes(NeededAnswers.class);
+    }
+
+    /** At most seven parameters and twenty fields beside constants; static fields are final and no arrays. */
+    private static void keepsToSizes(Class<?> one) {
+        int fields = 0;
+        for (Field field : one.getDeclaredFields()) {
+            boolean isStatic = Modifier.isStatic(field.getModifiers());
+            fields += isStatic ? 0 : 1;
+            check.is(field + " is a constant", !isStatic || Modifier.isFinal(field.getModifiers())
+                && field.getType().isPrimitive() ? 1 : 0, 1);
+        }
+        check.is(one + " has few fields", fields <= 20 ? 1 : 0, 1);
+        for (Method method : one.getDeclaredMethods()) {
+            check.is(method + " takes few", method.getParameterCount() <= 7 ? 1 : 0, 1);
+        }
+    }
+
+    private static void methodsAreShort(String text) {
+        int begin = 0;
+        String[] lines = text.split("\n");
+        for (int k = 0; k < lines.length; k++) {
+            if (lines[k].matches(" {4}(?: {4})?\\S.*\\) \\{")) begin = k;
+            if (lines[k].matches(" {4}(?: {4})?\\}")) check.is("long at line " + k, k - begin <= 60 ? 1 : 0, 1);
+            // The end of a class inside looks like that of a method, so each end begins anew.
+            if (lines[k].matches(" {4}(?: {4})?\\}")) begin = k;
         }
     }
 
@@ -73,6 +101,7 @@ public final class FaceTest {
         for (String rule : never) {
             check.is("code has " + rule, Pattern.compile(rule).matcher(code).find() ? 1 : 0, 0);
         }
+        methodsAreShort(text);
         check.is("signs beyond 127", text.chars().filter(c -> c > 127).count(), 0);
     }
 

@@ -21,14 +21,14 @@ public final class RandomRunsTest {
         random = new Random(run);
     }
 
-    public static void main(String[] args) throws ReflectiveOperationException {
+    public static void main(String[] args) {
         for (int run = 0; run < RUNS; run++) {
             new RandomRunsTest(run).go();
         }
         check.end();
     }
 
-    private void go() throws ReflectiveOperationException {
+    private void go() {
         List<Method> methods = new ArrayList<>();
         for (Method method : NeededAnswers.class.getDeclaredMethods()) {
             if (java.lang.reflect.Modifier.isPublic(method.getModifiers())) methods.add(method);
@@ -44,23 +44,14 @@ public final class RandomRunsTest {
         }
     }
 
-    private long call(String name, int... numbers) throws ReflectiveOperationException {
+    private long call(String name, int... numbers) {
         if (calls++ >= CALLS) return 0;
-        Class<?>[] types = new Class<?>[numbers.length];
-        Object[] arguments = new Object[numbers.length];
-        StringBuilder told = new StringBuilder(name);
-        for (int k = 0; k < numbers.length; k++) {
-            types[k] = int.class;
-            arguments[k] = numbers[k];
-            told.append(' ').append(numbers[k]);
-        }
-        Number got = (Number) NeededAnswers.class.getDeclaredMethod(name, types).invoke(x, arguments);
-        Number due = (Number) Model.class.getDeclaredMethod(name, types).invoke(model, arguments);
-        check.is("run " + run + ", call " + calls + ", " + told, got.longValue(), due.longValue());
-        return due.longValue();
+        long due = Calls.call(model, name, numbers);
+        check.is("run " + run + ", call " + calls + ", " + Calls.told(name, numbers), Calls.call(x, name, numbers), due);
+        return due;
     }
 
-    private void callAny(Method method) throws ReflectiveOperationException {
+    private void callAny(Method method) {
         int[] numbers = new int[method.getParameterCount()];
         for (int k = 0; k < numbers.length; k++) {
             int way = random.nextInt(40);
@@ -81,7 +72,7 @@ public final class RandomRunsTest {
         return "b" + ends.charAt(random.nextInt(4)) + ends.charAt(random.nextInt(4)) + ends.charAt(random.nextInt(4));
     }
 
-    private void layText() throws ReflectiveOperationException {
+    private void layText() {
         StringBuilder text = new StringBuilder("n");
         int many = 1 + random.nextInt(3);
         for (int f = 0; f < many; f++) {
@@ -98,7 +89,7 @@ public final class RandomRunsTest {
         call("functions", sheet, lane, from, text.length());
     }
 
-    private void growTerms() throws ReflectiveOperationException {
+    private void growTerms() {
         int terms = model.many(1);
         int way = random.nextInt(10);
         if (terms == 6 && way < 4) call("drop");
@@ -107,7 +98,7 @@ public final class RandomRunsTest {
         else call("apply", random.nextInt(Math.max(1, model.many(0))), random.nextInt(terms), random.nextInt(terms));
     }
 
-    private void layDay() throws ReflectiveOperationException {
+    private void layDay() {
         int pairs = random.nextInt(8);
         int sheet = random.nextInt(4);
         int lane = random.nextInt(3);
@@ -123,7 +114,7 @@ public final class RandomRunsTest {
     }
 
     /** A reading that is so, or nearly, as any other leaves no kinds. */
-    private void readTrue() throws ReflectiveOperationException {
+    private void readTrue() {
         if (model.many(1) == 0) return;
         if (model.many(3) > 3) call("back", model.many(3) - random.nextInt(3));
         int t = model.many(1) - 1;

@@ -167,23 +167,16 @@ public final class SheetsPartsTest {
         answersFault(x, "none at the ends", x.copy(0, 4, 2, 6, 0), 0, 0);
     }
 
-    private static int after(int trace, int... bodies) {
-        for (int body : bodies) {
-            trace = 31 * trace + body;
-        }
-        return trace;
-    }
-
     private static void tellingLeavesTraces() {
         NeededAnswers x = Check.with("n;p30012;d40012;w50012");
         check.is("plain", x.tell(0), 3);
-        int due = after(0, 1);
+        int due = Check.after(0, 1);
         check.is("plain's trace", x.trace(), due);
         check.is("dear", x.tell(1), 104);
-        due = after(due, 2, 1);
+        due = Check.after(due, 2, 1);
         check.is("dear's trace", x.trace(), due);
         check.is("double", x.tell(2), 110);
-        due = after(due, 3, 2, 1, 1);
+        due = Check.after(due, 3, 2, 1, 1);
         check.is("double's trace", x.trace(), due);
         check.is("function -1", x.tell(-1), -1);
         check.is("function 3", x.tell(3), -1);
@@ -197,12 +190,12 @@ public final class SheetsPartsTest {
         check.is("plain", x.note(0), 0);
         check.is("plain's trace", x.trace(), 4);
         check.is("dear", x.note(1), 1);
-        check.is("dear's trace", x.trace(), after(0, 4, 4));
+        check.is("dear's trace", x.trace(), Check.after(0, 4, 4));
         check.is("double", x.note(2), 30);
-        check.is("double's trace", x.trace(), after(0, 4, 4, 5));
+        check.is("double's trace", x.trace(), Check.after(0, 4, 4, 5));
         check.is("function -1", x.note(-1), -1);
         check.is("function 3", x.note(3), -1);
-        check.is("no trace of them", x.trace(), after(0, 4, 4, 5));
+        check.is("no trace of them", x.trace(), Check.after(0, 4, 4, 5));
         Check.take(x, "n;w10012;p10012;d10012");
         check.is("the last one's number", x.note(2), 2);
         check.is("a double one at 0", x.note(0), 30);
@@ -213,7 +206,7 @@ public final class SheetsPartsTest {
         int due = 0;
         for (int k = 0; k < 40; k++) {
             x.tell(0);
-            due = after(due, 3, 2, 1, 1);
+            due = Check.after(due, 3, 2, 1, 1);
             check.is("trace " + k, x.trace(), due);
         }
     }
