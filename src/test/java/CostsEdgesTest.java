@@ -87,18 +87,16 @@ public final class CostsEdgesTest {
 
     /** "OUTSIDE: c (0 .. 200, NONE)." */
     private static void theLastCostsThatAreTaken() {
-        NeededAnswers x = withATerm("n;p10000");
         int taken = 0;
         for (int c = -20; c <= 220; c++) {
+            NeededAnswers x = withATerm("n;p10000");
             boolean isTaken = c == -9 || c >= 0 && c <= 200;
             check.is("c " + c, x.reading(1, c), isTaken ? 0 : -2);
             taken += x.many(3);
-            x.back(x.many(3));
-            if (c == 80) x = withATerm("n;p10000");
         }
         check.is("as many were taken", taken, 202);
         for (int c : new int[] {Integer.MIN_VALUE, Integer.MAX_VALUE, 201 - 256, 201 + 256}) {
-            check.is("c " + c, x.reading(1, c), -2);
+            check.is("c " + c, withATerm("n;p10000").reading(1, c), -2);
         }
     }
 

@@ -346,9 +346,10 @@ public final class SheetsPartsEdgesTest {
         for (int k = 0; k < 200; k++) {
             x.note(k % 3);
             whole = whole.multiply(java.math.BigInteger.valueOf(31)).add(java.math.BigInteger.valueOf(k % 3 == 2 ? 5 : 4));
-            check.is("trace " + k, x.trace(), whole.intValue());
-            below |= x.trace() < 0;
-            above |= k > 9 && x.trace() > 0;
+            int trace = x.trace();
+            check.is("trace " + k, trace, whole.intValue());
+            below |= trace < 0;
+            above |= k > 9 && trace > 0;
         }
         check.is("it was below 0", below ? 1 : 0, 1);
         check.is("and above", above ? 1 : 0, 1);
