@@ -1,17 +1,12 @@
-import java.io.IOException;
 import java.lang.management.ManagementFactory;
 import java.lang.reflect.Field;
 import java.lang.reflect.Method;
 import java.lang.reflect.Modifier;
-import java.nio.file.Files;
-import java.nio.file.Path;
 import java.util.ArrayList;
 import java.util.List;
 import java.util.TreeSet;
-import java.util.regex.Pattern;
 
-/** The public face is the document's and no more, the file keeps to the language's rules that can be seen from its
- * text, and calls make no objects. */
+/** The public face is the document's and no more, and calls make no objects. */
 public final class FaceTest {
     private static final String[] FACE = {"int functions 4", "int ofFunction 2", "int constant 1", "int unknown 1",
         "int apply 3", "int drop 0", "int ofTerm 2", "int price 2", "int given 2", "int needs 2", "int answers 2",
@@ -21,10 +16,8 @@ public final class FaceTest {
     private static final String[] FIELDS = {"int UNKNOWN", "int OUTSIDE", "int STATE", "int FULL", "int NONE", "long LOST"};
     private static final Check check = new Check("FaceTest");
 
-    public static void main(String[] args) throws IOException {
+    public static void main(String[] args) {
         faceIsTheDocuments();
-        classesInsideAreStatic();
-        textKeepsToTheRules();
         callsMakeNoObjects();
         check.end();
     }
@@ -54,55 +47,6 @@ public final class FaceTest {
         for (String method : FACE) {
             check.is("hidden " + method, hidden.contains(method.split(" ")[1]) ? 1 : 0, 0);
         }
-    }
-
-    private static void classesInsideAreStatic() {
-        Class<?>[] inside = NeededAnswers.class.getDeclaredClasses();
-        check.is("at most twelve classes", inside.length <= 11 ? 1 : 0, 1);
-        for (Class<?> one : inside) {
-            check.is(one + " is static", Modifier.isStatic(one.getModifiers()) ? 1 : 0, 1);
-            check.is(one + " is not public", Modifier.isPublic(one.getModifiers()) ? 1 : 0, 0);
-            keepsToSizes(one);
-        }
-        keepsToSizes(NeededAnswers.class);
-    }
-
-    /** At most seven parameters and twenty fields beside constants; static fields are final and no arrays. */
-    private static void keepsToSizes(Class<?> one) {
-        int fields = 0;
-        for (Field field : one.getDeclaredFields()) {
-            boolean isStatic = Modifier.isStatic(field.getModifiers());
-            fields += isStatic ? 0 : 1;
-            check.is(field + " is a constant", !isStatic || Modifier.isFinal(field.getModifiers())
-                && field.getType().isPrimitive() ? 1 : 0, 1);
-        }
-        check.is(one + " has few fields", fields <= 20 ? 1 : 0, 1);
-        for (Method method : one.getDeclaredMethods()) {
-            check.is(method + " takes few", method.getParameterCount() <= 7 ? 1 : 0, 1);
-        }
-    }
-
-    private static void methodsAreShort(String text) {
-        int begin = 0;
-        String[] lines = text.split("\n");
-        for (int k = 0; k < lines.length; k++) {
-            if (lines[k].matches(" {4}(?: {4})?\\S.*\\) \\{")) begin = k;
-            if (lines[k].matches(" {4}(?: {4})?\\}")) check.is("long at line " + k, k - begin <= 60 ? 1 : 0, 1);
-            // The end of a class inside looks like that of a method, so each end begins anew.
-            if (lines[k].matches(" {4}(?: {4})?\\}")) begin = k;
-        }
-    }
-
-    private static void textKeepsToTheRules() throws IOException {
-        String text = Files.readString(Path.of("src/main/java/NeededAnswers.java"));
-        String code = text.replaceAll("(?s)/\\*.*?\\*/", "").replaceAll("//[^\n]*", "");
-        String[] never = {"\\bthrow\\b", "\\btry\\b", "\\bcatch\\b", "\\bsynchronized\\b", "\\bassert\\b", "->", "::",
-            "Exact\\b", "\\bimport\\b", "\\bpackage\\b", "\\bprotected\\b", "\\bstatic\\s*\\{", "\\bObject\\b"};
-        for (String rule : never) {
-            check.is("code has " + rule, Pattern.compile(rule).matcher(code).find() ? 1 : 0, 0);
-        }
-        methodsAreShort(text);
-        check.is("signs beyond 127", text.chars().filter(c -> c > 127).count(), 0);
     }
 
     /** A run that has no room to spare: no call may make anything. */
